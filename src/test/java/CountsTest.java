@@ -8,6 +8,7 @@ public final class CountsTest {
         barred();
         marks();
         marksAndRings();
+        marksAndLumps();
         count();
         C.end("CountsTest");
     }
@@ -24,6 +25,12 @@ public final class CountsTest {
             C.due("count(8)", x.count(8), i + 1);
         }
         C.due("10 are told", x.told(0, 0), -1);
+        C.due("3 in 11 steps are not so", x.fits(0), 0);
+        x.forget();
+        for (int i = 0; i < 10; i++) {
+            x.told(0, i * 11);
+        }
+        C.due("none in 0 to 99 steps", x.fits(0), 1);
         C.due("forget()", x.forget(), 10);
         C.due("count(8)", x.count(8), 0);
         C.due("forget()", x.forget(), 0);
@@ -70,6 +77,10 @@ public final class CountsTest {
         x.told(2, 100);
         x.told(1, 0);
         C.due("the first one that is told is not so", x.fits(3), 0);
+        x.forget();
+        x.told(1, 0);
+        x.told(2, 1);
+        C.due("a count of now is looked at, too", x.fits(3), 0);
         x.forget();
         x.told(1, 1);
         x.end(3);
@@ -146,6 +157,22 @@ public final class CountsTest {
         x.mark(0, true);
         C.due("STEP 9", x.count(0), 9);
         luckStays();
+        birthIsHeld();
+    }
+
+    private static void birthIsHeld() {
+        RingDisk x = C.disk(2, "gather 1 when step = 1;");
+        x.dust(0, 0, 5);
+        x.mark(0, false);
+        x.steps(2);
+        x.mark(1, false);
+        x.mark(0, true);
+        C.law(x, "gather 1 when 1;", 0);
+        x.steps(1);
+        C.due("it came in STEP 0", x.look(0, 8), 0);
+        C.due("it has nothing of the one before", x.made(0, 0), 5);
+        x.mark(1, true);
+        C.due("it came in STEP 1", x.look(0, 8), 1);
     }
 
     /** LUCK and THROW are not held: with LUCK 0 nothing is drawn behind the mark. */
@@ -181,6 +208,54 @@ public final class CountsTest {
         x.mark(4, true);
         C.due("7 rings", x.count(1), 7);
         C.due("no dust", x.parts(0), 0);
+    }
+
+    /** A mark holds every part of every lump, and those that come again are not mixed with those that were. */
+    private static void marksAndLumps() {
+        RingDisk x = C.disk(12, "gather 10 when step < 3; eat 10 when 1; wander 2 when 1; feed 30 when 1;"
+                + "drift 20 when warm < 6;");
+        for (int r = 0; r < 12; r++) {
+            x.ring(r, 100 + 40 * (r * 5 % 12), r, 50 + r * r % 7 * 50);
+            for (int z = 0; z < 5; z++) {
+                x.dust(r, z, 3 * r + 2 * z + 1);
+            }
+        }
+        x.star(1000, 0, 60);
+        x.mark(0, false);
+        x.steps(2);
+        x.mark(1, false);
+        String two = told(x);
+        x.steps(4);
+        String six = told(x);
+        x.mark(2, false);
+        C.due("some were eaten, some fell, some were thrown", x.count(2) > x.count(3) && x.parts(2) > 0
+                && x.parts(3) > 0, true);
+        x.mark(1, true);
+        C.due("as it was at 2", told(x).equals(two), true);
+        x.steps(4);
+        C.due("as it was at 6", told(x).equals(six), true);
+        x.mark(0, true);
+        x.steps(6);
+        C.due("all lumps come anew", told(x).equals(six), true);
+        x.mark(0, true);
+        x.mark(2, true);
+        C.due("from STEP 0 to 6", told(x).equals(six), true);
+        C.law(x, "", 0);
+        x.steps(1);
+        C.law(x, "gather 1 when 1;", 0);
+        x.mark(0, true);
+        x.steps(1);
+        // Of 9, 7, 5, 3, 1 the 7 are thrown, the others eaten.
+        C.due("nothing of who was there before", x.made(0, 0), 18);
+        C.due("it is of ring 0 alone", x.look(0, 2), 18);
+        x.mark(0, true);
+        C.law(x, "gather 10 when step < 3; eat 10 when 1; wander 2 when 1; feed 30 when 1;"
+                + "drift 20 when warm < 6;", 0);
+        x.rings(12);
+        x.mark(1, true);
+        C.due("from new rings to 2", told(x).equals(two), true);
+        x.steps(4);
+        C.due("with warm, periods and gas", told(x).equals(six), true);
     }
 
     private static String told(RingDisk x) {

@@ -154,6 +154,28 @@ public final class LawsTest {
         C.due("no laws", x.count(4), 0);
         C.due("no open ones", x.count(5), 0);
         C.due("END", x.count(6), 0);
+        // However much was read before, there is room for the next.
+        for (int i = 0; i < 60; i++) {
+            C.law(x, "gap 1 when " + "1 + ".repeat(20) + "1;", 0);
+        }
+        C.law(x, "break 0 when 0;", 0);
+        x.dust(1, 1, 10);
+        x.mark(0, false);
+        for (int i = 0; i < 30; i++) {
+            C.law(x, "break 0 when " + "0 + ".repeat(20) + "0; break 100 when 1;", 0);
+            x.mark(0, true);
+            x.steps(1);
+            C.due("read " + i, x.has(1, 0), 10);
+        }
+        x.mark(0, true);
+        // Nor does anything of it come behind the last law.
+        C.law(x, "break 100 when not 1;", 0);
+        C.law(x, "break 100 when not 1;", 0);
+        C.law(x, "break 100 when 1;", 0);
+        x.steps(1);
+        C.due("it holds", x.has(1, 0), 10);
+        x.mark(0, true);
+        C.law(x, "", 0);
         // A text with a fault leaves nothing of it behind: ring 0's dust does not stick, nor break.
         x.dust(0, 1, 100);
         C.law(x, "break 100 when 1; stick 100 when 1; x", 1 + 16 * 36);
@@ -175,7 +197,7 @@ public final class LawsTest {
     private static void values() {
         String[] hold = {"1", "99999", "1 and 2", "0 or 3", "not 0", "not not 5", "not 5 = 0", "2 < 3", "3 = 3",
             "1 - 2", "7 / 2 = 3", "(0 - 7) / 2 = 0 - 3", "5 / 0 = 0", "1 - 2 - 3 = 0 - 4", "12 / 2 / 3 = 2",
-            "7 / 2 * 2 = 6", "2 * 7 / 2 = 7", "1 + 2 * 3 = 7", "(1 + 2) * 3 = 9", "0 and 0 or 1", "(1 < 2) = 1",
+            "7 / 2 * 2 = 6", "2 * 7 / 2 = 7", "1 + 2 * 3 = 7", "(1 + 2) * 3 = 9", "0 and 0 or 1", "(1 < 2) = 1", "(3 = 3) = 1",
             "(2 < 1) = 0", "(5 and 6) = 1", "(0 or 6) = 1", "not 2 + 1", "not 0 * 5 = 5",
             "99999 * 99999 / 10000 = 14098 * 10 + 6",
             "0 - 65536 * 32768 < 0", "65536 * 32768 < 0", "65536 * 65536 = 0",
@@ -213,12 +235,29 @@ public final class LawsTest {
         x.steps(1);
         C.due("facts of a lump", x.look(1, 7), 10);
         C.due("facts of another one", x.look(0, 7), 3);
+        notAskedAbout();
         // The first of its kind that holds is asked, whatever stands between.
         C.law(x, "seen 5 when 0; gap 1 when 1; seen 6 when ring; feed 9 when 1; seen 7 when 1;", 0);
         C.due("the second", x.look(1, 7), 6);
         C.due("the third", x.look(0, 7), 7);
         C.law(x, "gap 1 when 1;", 0);
         C.due("none", x.look(0, 7), 0);
+    }
+
+    /** Dust that is asked about behind a lump has no weight, a lump behind dust no size. */
+    private static void notAskedAbout() {
+        RingDisk x = C.disk(2, "gather 9 when size = 4; feed 50 when size = 0 and dust = 0 and weight = 9;"
+                + "stick 100 when weight or lumps and step = 1 and not weight = 0; break 100 when weight;");
+        x.dust(1, 4, 9);
+        x.dust(1, 3, 2);
+        x.dust(1, 2, 1);
+        x.steps(1);
+        C.due("fed", x.look(0, 2), 10);
+        x.steps(1);
+        C.dustOf(x, 1, 0, 0, 1, 1, 0);
+        C.law(x, "break 100 when weight = 0;", 0);
+        x.steps(1);
+        C.dustOf(x, 1, 2, 0, 0, 0, 0);
     }
 
     private static void ends() {

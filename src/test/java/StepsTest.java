@@ -18,6 +18,7 @@ public final class StepsTest {
         meet();
         throwOut();
         inOrder();
+        twelve();
         C.end("StepsTest");
     }
 
@@ -54,6 +55,15 @@ public final class StepsTest {
         y.dust(0, 1, 10);
         y.steps(2);
         C.dustOf(y, 0, 0, 0, 20, 0, 0);
+        RingDisk none = C.disk(2, "stick 100 when ring = 1;");
+        none.dust(0, 0, 99999);
+        none.steps(1);
+        C.dustOf(none, 0, 99999, 0, 0, 0, 0);
+        RingDisk one = C.disk(2, "stick 100 when 1; drift 100 when 1;");
+        C.gas(one, 2, 1);
+        one.dust(1, 0, 1);
+        one.steps(1);
+        C.dustOf(one, 0, 0, 1, 0, 0, 0);
     }
 
     /** SEED 0 draws 0, 21468, 9988, 22117, 3498, ..: told by the rule of the document. */
@@ -79,6 +89,24 @@ public final class StepsTest {
         // Drawn just where a law holds: the first one.
         n = 40 + x[0] % 41 - 20;
         C.dustOf(e, 1, 1000 - 10 * n, 10 * n, 0, 0, 0);
+        RingDisk least = C.disk(2, "stick 40 when 1;");
+        least.star(0, 1, 101);
+        least.dust(1, 0, 1000);
+        least.steps(1);
+        n = 40 + x[7] % 3 - 1;
+        C.dustOf(least, 1, 1000 - 10 * n, 10 * n, 0, 0, 0);
+        C.due("which is not what the first one would tell", x[7] % 3 == x[0] % 3, false);
+        // Two rings draw eight a step, so ring 0's SIZE 3 gets the ninth one in the second step.
+        g = (g * 1103515245L + 12345) % 2147483648L;
+        n = (int) (40 + g / 65536 % 41 - 20);
+        RingDisk late = C.disk(2, "stick 40 when 1;");
+        late.star(0, 20, 101);
+        late.dust(0, 3, 1000);
+        late.steps(1);
+        int left = late.has(0, 3);
+        C.due("the first step", left, 1000 - 10 * (40 + x[0] % 41 - 20));
+        late.steps(1);
+        C.due("the ninth one", late.has(0, 3), left - left * n / 100);
         RingDisk low = C.disk(2, "stick 0 when size = 0;");
         low.star(0, 20, 101);
         low.dust(0, 0, 1000);
@@ -109,6 +137,10 @@ public final class StepsTest {
         x.steps(1);
         C.dustOf(x, 1, 21, 5, 5, 9, 5);
         C.dustOf(x, 0, 0, 0, 0, 0, 0);
+        RingDisk one = C.disk(2, "break 100 when 1;");
+        one.dust(0, 2, 1);
+        one.steps(1);
+        C.dustOf(one, 0, 1, 0, 0, 0, 0);
     }
 
     private static void drift() {
@@ -393,6 +425,23 @@ public final class StepsTest {
             C.due("the other's weight", x.look(other, 2), p[3] == 3 ? weight : 0);
             C.due("all", x.parts(4), p[0] + p[1]);
         }
+    }
+
+    /** All parts go through the last of twelve rings, and not beyond. */
+    private static void twelve() {
+        RingDisk x = C.disk(12, "stick 50 when size = 0; break 50 when size = 3; drift 50 when size = 1;"
+                + "gather 8 when size = 4; feed 25 when 1; eat 10 when 1; wander 1 when 1; gap 2 when 1;");
+        for (int r = 0; r < 12; r++) {
+            x.ring(r, 100 + r, 0, 100);
+        }
+        x.dust(11, 0, 40);
+        x.dust(11, 3, 40);
+        x.dust(11, 4, 8);
+        x.steps(1);
+        // 20 stick, 20 break to SIZE 0: 40, 20 and 20 are there, of which the lump takes a quarter.
+        C.dustOf(x, 11, 30, 15, 0, 15, 0, 100);
+        C.due("its weight", x.look(0, 2), 8 + 10 + 5 + 5 + 11);
+        C.due("the ring inside has more gas", x.look(0, 1), 10);
     }
 
     /** One step does all parts, each from what the part ahead has left. */

@@ -55,6 +55,25 @@ public final class TellingTest {
         C.due("the STAR pulls as before", x.has(0, 7), 0);
         x.steps(1);
         C.due("rings(3) at STEP 1", x.rings(3), false);
+        periodsAtFirst();
+    }
+
+    /** With lumps in all rings those are locked that have a half or two thirds of their period inside. */
+    private static void periodsAtFirst() {
+        RingDisk x = C.disk(12, "gather 1 when warm = 0;");
+        for (int r = 0; r < 12; r++) {
+            x.ring(r, 5, 9, 9999);
+            x.dust(r, 0, 3);
+        }
+        x.rings(12);
+        for (int r = 0; r < 12; r++) {
+            x.dust(r, 4, 1);
+        }
+        x.steps(1);
+        for (int r = 0; r < 12; r++) {
+            C.due("locked at first: " + r, x.look(r, 5), (r + 1) % 2 == 0 || (r + 1) % 3 == 0 ? 1 : 0);
+            C.due("of one part it has its family", x.look(r, 4), r);
+        }
     }
 
     /** A period is seen by who is locked: lumps in rings 0 and 1, whose periods are as 2 to 1 at first. */
@@ -84,6 +103,10 @@ public final class TellingTest {
         x.steps(1);
         C.due("201 to 100 is not locked", x.look(1, 5), 0);
         C.due("ring at STEP 1", x.ring(1, 0, 0, 201), false);
+        x.mark(0, true);
+        x.ring(1, 0, 0, 150);
+        x.steps(1);
+        C.due("150 to 100 is locked", x.look(1, 5), 1);
         x.mark(0, true);
         x.ring(1, 0, 1, 200);
         x.steps(1);

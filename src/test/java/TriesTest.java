@@ -98,6 +98,10 @@ public final class TriesTest {
         C.due("not by then", late.empty(1, 0), -1);
         late.steps(1);
         C.due("from now on", late.empty(1, 0), 201);
+        RingDisk one = C.disk(2, "drift 100 when step = 2;");
+        C.gas(one, 2, 1);
+        one.dust(1, 0, 1);
+        C.due("the last one counts", one.empty(1, 0), 3);
     }
 
     private static void runs() {
