@@ -500,16 +500,13 @@ public final class RingDisk {
             weight += n;
         }
 
-        /** The other keeps nothing, or its parts would be two lumps' at once. */
+        /** What the other had taken is still told of it; only lumps that are THERE are counted as parts. */
         void takeAllOf(Lump other) {
             for (int i = 0; i < MOST_RINGS; i++) {
                 dustOf[i] += other.dustOf[i];
-                other.dustOf[i] = 0;
             }
             gas += other.gas;
             weight += other.weight;
-            other.gas = 0;
-            other.weight = 0;
         }
 
         int familyOf(int rings) {

@@ -5,6 +5,8 @@ public final class LooksTest {
     public static void main(String[] args) {
         look();
         families();
+        eaten();
+        eatenInARow();
         parts();
         C.end("LooksTest");
     }
@@ -71,6 +73,65 @@ public final class LooksTest {
         C.due("gas is of no ring", two.made(1, 1), 6);
         C.due("two families", two.count(10), 2);
         C.due("the second", two.look(1, 4), 1);
+    }
+
+    /** Of a lump that was eaten is told what it had taken, whatever the heavier one does then. */
+    private static void eaten() {
+        RingDisk x = C.disk(4, "gather 10 when step = 0; feed 50 when 1; eat 10 when step = 0;"
+                + "wander 1 when 1 < ring; seen 50 when 1;");
+        int[] gas = {50, 200, 150, 100};
+        int[] period = {60, 100, 250, 700};
+        for (int r = 0; r < 4; r++) {
+            x.ring(r, gas[r], 0, period[r]);
+        }
+        x.dust(1, 0, 40);
+        x.dust(1, 1, 8);
+        x.dust(2, 0, 9);
+        x.dust(3, 0, 6);
+        x.dust(3, 4, 10);
+        x.steps(1);
+        lump(x, 0, new int[] {0, 1, 64, 20, 1, 0, -1, 50, 0, 0}, 0, 44, 0, 0);
+        lump(x, 1, new int[] {0, 2, 23, 10, 3, 0, -1, 50, 0, 0}, 0, 0, 0, 13);
+        int[] gone = {1, 1, 27, 10, 3, -1, 0, -1, 0, 0};
+        x.steps(1);
+        lump(x, 0, new int[] {0, 1, 93, 30, 1, 0, -1, 50, 0, 0}, 0, 46, 4, 13);
+        lump(x, 1, gone, 0, 0, 4, 13);
+        x.mark(2, false);
+        x.steps(1);
+        lump(x, 0, new int[] {0, 1, 94, 30, 1, 0, -1, 50, 0, 0}, 0, 47, 4, 13);
+        lump(x, 1, gone, 0, 0, 4, 13);
+        x.steps(9);
+        x.mark(2, true);
+        lump(x, 1, gone, 0, 0, 4, 13);
+        C.due("in LUMPS THERE", x.parts(1), 93);
+        sum(x, 573);
+        C.due("families of those THERE", x.count(10), 1);
+        C.due("its family is not THERE", x.asked(0, 0, 3, 3), 0);
+        C.due("its ring's lump is the other", x.asked(0, 0, 3, 1), 1);
+        C.due("PUT BACK of those THERE", x.back(), 200);
+    }
+
+    /** One that had eaten another keeps that, too, when it is eaten. */
+    private static void eatenInARow() {
+        RingDisk x = C.disk(2, "gather 1 when 1; eat 10 when lumps = 3;");
+        C.gas(x, 1000, 0);
+        x.dust(0, 4, 50);
+        x.dust(0, 3, 50);
+        x.dust(0, 1, 300);
+        x.steps(1);
+        lump(x, 0, new int[] {1, 0, 290, 190, 0, -1, 2, -1, 0, 0}, 100, 0);
+        lump(x, 1, new int[] {1, 0, 140, 90, 0, -1, 0, -1, 0, 0}, 50, 0);
+        lump(x, 2, new int[] {0, 0, 671, 271, 0, 0, -1, 0, 0, 0}, 400, 0);
+        sum(x, 1400);
+    }
+
+    private static void lump(RingDisk x, int lump, int[] look, int... made) {
+        for (int what = 0; what < look.length; what++) {
+            C.due("look(" + lump + ", " + what + ")", x.look(lump, what), look[what]);
+        }
+        for (int r = 0; r < made.length; r++) {
+            C.due("made(" + lump + ", " + r + ")", x.made(lump, r), made[r]);
+        }
     }
 
     private static void sum(RingDisk x, long told) {

@@ -484,10 +484,8 @@ final class Oracle {
                 other.state = "eaten";
                 other.eater = d.bodies.indexOf(heavy);
                 heavy.gas += other.gas;
-                other.gas = 0;
                 for (int i = 0; i < 12; i++) {
                     heavy.dust[i] += other.dust[i];
-                    other.dust[i] = 0;
                 }
             }
         }

@@ -393,8 +393,10 @@ public final class StepsTest {
         C.due("weight", x.look(2, 2), 671);
         C.due("gas", x.look(2, 3), 271);
         C.due("dust", x.made(2, 0), 400);
-        C.due("nothing is left of 0", x.look(0, 2) + x.look(0, 3) + x.made(0, 0), 0);
-        C.due("no family", x.look(0, 4), -1);
+        C.due("0 had taken, with what 1 had", x.look(0, 2), 290);
+        C.due("1 had taken", x.look(1, 2), 140);
+        C.due("only those THERE are parts", x.parts(1), 671);
+        C.due("all", x.parts(4), 1400);
         C.due("its ring", x.look(1, 1), 0);
         C.due("not there", x.look(0, 5), -1);
         C.due("not there", x.look(0, 7), -1);
@@ -422,7 +424,7 @@ public final class StepsTest {
             C.due("who stays", x.look(1 - other, 0), 0);
             C.due("its weight", x.look(1 - other, 2), p[3] == 3 ? Math.max(p[0], p[1]) : p[0] + p[1]);
             C.due("THROWN", x.parts(3), p[3] == 3 ? weight : 0);
-            C.due("the other's weight", x.look(other, 2), p[3] == 3 ? weight : 0);
+            C.due("the other's weight", x.look(other, 2), weight);
             C.due("all", x.parts(4), p[0] + p[1]);
         }
     }
