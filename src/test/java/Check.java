@@ -1,5 +1,13 @@
+import java.io.IOException;
+import java.nio.file.Files;
+import java.nio.file.Path;
+import java.util.ArrayList;
+import java.util.List;
+
 /** What the tests share: it counts and prints the answers that are not as due. */
 final class Check {
+    private final List<String> said = new ArrayList<>();
+    private String sentence = "";
     private int asked;
     private int wrong;
 
@@ -7,8 +15,14 @@ final class Check {
         asked++;
         if (got != want) {
             wrong++;
-            System.out.println(call + " answered " + got + ", due is " + want);
+            System.out.println(sentence + call + " answered " + got + ", due is " + want);
         }
+    }
+
+    /** The words of the document that the answers up to the next call of this one hold to. */
+    void says(String words) {
+        sentence = "[" + words + "] ";
+        said.add(words);
     }
 
     void due(String call, boolean got, boolean want) {
@@ -45,6 +59,17 @@ final class Check {
         due("laws() of \"" + text + "\"", x.laws(), want);
     }
 
+    /** The fault at the sign ^ of the text, which is taken out. */
+    void fault(int kind, String text) {
+        int place = text.indexOf('^');
+        String plain = text.substring(0, place) + text.substring(place + 1);
+        law(new RingDisk(), plain, kind + 16 * place);
+    }
+
+    void fine(String text) {
+        law(new RingDisk(), text, 0);
+    }
+
     /** The gas of all rings, warm and periods being as at first. */
     void gas(RingDisk x, int... gas) {
         for (int i = 0; i < gas.length; i++) {
@@ -58,8 +83,26 @@ final class Check {
         }
     }
 
+    /** A notice, not a fault: a document that is worded anew need not ask for anything else. */
+    private void noticeWhatIsNoMoreSaid() {
+        try {
+            String all = Files.readString(Path.of("../shared/DOC.md")).replace("`", "").replaceAll("\\s+", " ");
+            for (String words : said) {
+                if (!all.contains(words)) {
+                    System.out.println("notice: the document does not say: " + words);
+                }
+            }
+        } catch (IOException e) {
+            System.out.println("notice: no document is there");
+        }
+    }
+
     void end(String name) {
-        System.out.println(name + ": " + asked + " answers, " + wrong + " wrong");
+        if (!said.isEmpty()) {
+            noticeWhatIsNoMoreSaid();
+        }
+        System.out.println(name + ": " + asked + " answers, " + wrong + " wrong"
+                + (said.isEmpty() ? "" : ", " + said.size() + " sentences"));
         if (wrong > 0) {
             System.exit(1);
         }

@@ -14,15 +14,12 @@ public final class LawsTest {
         C.end("LawsTest");
     }
 
-    /** The fault at the sign ^ of the text, which is taken out. */
     private static void fault(int kind, String text) {
-        int place = text.indexOf('^');
-        String plain = text.substring(0, place) + text.substring(place + 1);
-        C.law(new RingDisk(), plain, kind + 16 * place);
+        C.fault(kind, text);
     }
 
     private static void fine(String text) {
-        C.law(new RingDisk(), text, 0);
+        C.fine(text);
     }
 
     private static void tokens() {
@@ -197,7 +194,8 @@ public final class LawsTest {
     private static void values() {
         String[] hold = {"1", "99999", "1 and 2", "0 or 3", "not 0", "not not 5", "not 5 = 0", "2 < 3", "3 = 3",
             "1 - 2", "7 / 2 = 3", "(0 - 7) / 2 = 0 - 3", "5 / 0 = 0", "1 - 2 - 3 = 0 - 4", "12 / 2 / 3 = 2",
-            "7 / 2 * 2 = 6", "2 * 7 / 2 = 7", "1 + 2 * 3 = 7", "(1 + 2) * 3 = 9", "0 and 0 or 1", "(1 < 2) = 1", "(3 = 3) = 1",
+            "7 / 2 * 2 = 6", "2 * 7 / 2 = 7", "1 + 2 * 3 = 7", "(1 + 2) * 3 = 9", "0 and 0 or 1",
+            "(1 < 2) = 1", "(3 = 3) = 1",
             "(2 < 1) = 0", "(5 and 6) = 1", "(0 or 6) = 1", "not 2 + 1", "not 0 * 5 = 5",
             "99999 * 99999 / 10000 = 14098 * 10 + 6",
             "0 - 65536 * 32768 < 0", "65536 * 32768 < 0", "65536 * 65536 = 0",
