@@ -62,11 +62,11 @@ public final class RingDisk {
         disk = new Disk();
         marks = new Disk[MOST_MARKS];
         tape = new Tape();
-        reader = new Reader();
         course = new Course();
         copy = course.disk;
         inForce = course.laws;
         spare = new Laws();
+        reader = new Reader(tape, spare);
         toldLumps = new int[MOST_TOLD];
         toldSteps = new int[MOST_TOLD];
     }
@@ -126,7 +126,7 @@ public final class RingDisk {
     }
 
     public int laws() {
-        int fault = reader.read(tape, spare);
+        int fault = reader.read(spare);
         tape.length = 0;
         if (fault == 0) {
             Laws old = inForce;
@@ -1149,7 +1149,7 @@ public final class RingDisk {
 
         /** A place behind the last sign has the sign 0, which no token holds. */
         int signAt(int place) {
-            return isWithin(place, 0, length - 1) ? signs[place] : 0;
+            return 0 <= place && place < length ? signs[place] : 0;
         }
 
         void addBytes(long bytes) {
@@ -1183,7 +1183,7 @@ public final class RingDisk {
         private static final int MOST_DIGITS = 5;
         private static final int MOST_DEPTH = 4;
 
-        private Tape tape;
+        private final Tape tape;
         private Laws into;
         private int fault;
         private int token;
@@ -1191,8 +1191,12 @@ public final class RingDisk {
         private int behind;
         private int number;
 
-        int read(Tape from, Laws to) {
+        Reader(Tape from, Laws to) {
             tape = from;
+            into = to;
+        }
+
+        int read(Laws to) {
             into = to;
             into.clear();
             fault = 0;
@@ -1211,11 +1215,11 @@ public final class RingDisk {
         }
 
         private static boolean isLetter(int sign) {
-            return isWithin(sign, 'a', 'z');
+            return 'a' <= sign && sign <= 'z';
         }
 
         private static boolean isDigit(int sign) {
-            return isWithin(sign, '0', '9');
+            return '0' <= sign && sign <= '9';
         }
 
         private void advance() {

@@ -112,6 +112,10 @@ public final class RandomRunsTest {
     private void go() {
         x = new RingDisk();
         o = new Oracle();
+        if (chance.nextInt(3) == 0) {
+            goTame();
+            return;
+        }
         if (chance.nextInt(8) > 0) {
             same("rings", 2 + upTo(5));
         }
@@ -122,6 +126,91 @@ public final class RandomRunsTest {
         lay(lawText());
         for (int i = 0; i < calls && !stopped; i++) {
             one();
+        }
+    }
+
+    /** A small disk with laws that mostly hold and ENDS that matter, and questions near to what will be. */
+    private void goTame() {
+        int n = 2 + upTo(3);
+        same("rings", n);
+        for (int r = 0; r < n; r++) {
+            same("ring", r, upTo(30), upTo(5), pick(100, 150, 200, 300, 100 * (r + 1)));
+            same("dust", r, upTo(4), upTo(200));
+            same("dust", r, upTo(2), upTo(200));
+        }
+        same("star", upTo(25), pick(0, 0, 5, 20), pick(101, 90, 50, 10));
+        lay(tameLaws());
+        int calls = 40 + upTo(40);
+        for (int i = 0; i < calls && !stopped; i++) {
+            tameOne(n);
+        }
+    }
+
+    private String tameLaws() {
+        StringBuilder text = new StringBuilder();
+        for (int i = 2 + upTo(6); i > 0; i--) {
+            String kind = pick("stick", "drift", "drift", "gather", "gather", "feed", "eat", "wander", "gap");
+            int most = kind.equals("gather") ? 250 : kind.equals("wander") ? 6 : kind.equals("gap") ? 4 : 100;
+            int low = chance.nextInt(3) == 0 ? most : 1 + upTo(most / 4);
+            text.append(kind).append(' ').append(low);
+            if (low < most && chance.nextInt(3) > 0) {
+                text.append(" to ").append(pick(most, most - upTo(most / 4)));
+            }
+            text.append(" when ").append(pick("1", "1", "ring", "size<3", "step<4", "lumps<3", "not warm", "0<gas"));
+            text.append(';');
+        }
+        text.append("seen 20 to 60 when weight<150;seen ").append(1 + upTo(99)).append(" when 1;");
+        return text.toString();
+    }
+
+    private void tameOne(int n) {
+        int open = x.count(5);
+        int e = upTo((1 << open) - 1);
+        int far = pick(0, 1, 2, 3, 5, 9, 20, 60);
+        int what = upTo(4);
+        int v = what == 2 ? upTo(4) : what == 4 ? upTo(300) : upTo(n - 1);
+        switch (chance.nextInt(12)) {
+            case 0:
+                same("steps", pick(1, 1, 1, 2, 4));
+                allLooked();
+                break;
+            case 1:
+                same("end", e);
+                break;
+            case 2:
+            case 3:
+            case 4:
+                saw("sure " + same("sure", far, what, v));
+                break;
+            case 5:
+                same("asked", e, far, what, v);
+                break;
+            case 6:
+                if (same("empty", upTo(n - 1), e) > x.count(0)) {
+                    saw("empty later");
+                }
+                break;
+            case 7:
+                int m = upTo(5) - 1;
+                if (same("runs", pick(1, 4, 9), far, m) > 0 && m > 0) {
+                    saw("odds");
+                }
+                break;
+            case 8:
+                same("told", upTo(3), pick(1, 2, 5));
+                break;
+            case 9:
+                same("fits", e);
+                saw("barred " + same("barred", upTo(3), upTo(1)));
+                break;
+            case 10:
+                if (chance.nextInt(2) == 0) {
+                    same("forget");
+                }
+                same("back");
+                break;
+            default:
+                same("mark", upTo(1), upTo(2) / 2);
         }
     }
 
@@ -156,7 +245,7 @@ public final class RandomRunsTest {
             int most = kind.equals("gather") ? pick(20, 500, 99999) : kind.equals("wander") ? 5
                     : kind.equals("gap") ? 4 : 100;
             int low = 1 + upTo(most - 1);
-            text.append(kind).append(' ').append(low);
+            text.append(kind).append(' ').append(chance.nextInt(60) == 0 ? notOf(kind) : low);
             if (chance.nextInt(laws) < 3) {
                 text.append(pick(" to ", "to ")).append(low + upTo(most - low));
             }
@@ -167,6 +256,19 @@ public final class RandomRunsTest {
             spoil(text);
         }
         return text.toString();
+    }
+
+    private String notOf(String kind) {
+        switch (kind) {
+            case "gather":
+                return "0";
+            case "wander":
+                return pick("0", "100");
+            case "gap":
+                return pick("5", "00010");
+            default:
+                return pick("101", "99999");
+        }
     }
 
     private void spoil(StringBuilder text) {
